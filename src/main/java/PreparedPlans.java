@@ -742,7 +742,7 @@ public final class PreparedPlans {
 
         private void takeStatisticsOf(int column) {
             int different = 0;
-            int least = cell(0, column);
+            int least = rowCount > 0 ? cell(0, column) : 0;
             int greatest = least;
             for (int row = 0; row < rowCount; row++) {
                 int number = cell(row, column);
@@ -750,10 +750,9 @@ public final class PreparedPlans {
                 greatest = Math.max(greatest, number);
                 different += isFirst(row, column) ? 1 : 0;
             }
-            boolean isKnown = rowCount > 0;
             statistics.different[column] = different;
-            statistics.least[column] = isKnown ? least : 0;
-            statistics.greatest[column] = isKnown ? greatest : 0;
+            statistics.least[column] = least;
+            statistics.greatest[column] = greatest;
         }
 
         private boolean isFirst(int row, int column) {
@@ -974,7 +973,7 @@ public final class PreparedPlans {
             this.data = data;
         }
 
-        /** One index more than there can be columns is an error in itself, as are too many of the others. */
+        /** Each loop may begin one statement more than there can be: that one is always an error. */
         void readSetup() {
             data.clear(setup);
             tokens.advance();
@@ -1182,7 +1181,12 @@ public final class PreparedPlans {
             if (tokens.kind == '?') {
                 return new Comparison(column, sign, Comparison.WITH_HOLE, takeHole(type));
             }
-            return new Comparison(column, sign, Comparison.WITH_COLUMN, takeOtherColumn(type));
+            int start = tokens.start;
+            int other = takeColumn();
+            if (setup.typeOf(other) != type) {
+                fail(MISMATCH, start);
+            }
+            return new Comparison(column, sign, Comparison.WITH_COLUMN, other);
         }
 
         private Condition readNested(int depth) {
@@ -1222,15 +1226,6 @@ public final class PreparedPlans {
                 holeTypes[hole] = type;
             }
             return hole;
-        }
-
-        private int takeOtherColumn(int type) {
-            int start = tokens.start;
-            int column = takeColumn();
-            if (setup.typeOf(column) != type) {
-                fail(MISMATCH, start);
-            }
-            return column;
         }
     }
 }

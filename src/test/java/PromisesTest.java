@@ -40,6 +40,7 @@ public final class PromisesTest {
         promise23Undo();
         promise24Checksum();
         constants();
+        greatArguments();
         Checks.end("PromisesTest");
     }
 
@@ -97,6 +98,7 @@ public final class PromisesTest {
         same("least", Checks.load(new PreparedPlans(), "table;"), 0);
         same("spaces", Checks.load(new PreparedPlans(), "  table  ;  column  a  flag  ;  prepare p not ( a = ? 0 )  ;  "), 1);
         same("no spaces", Checks.load(new PreparedPlans(), "table;column a day;row7;prepare p a=1or a=2and a<?0;cost1 2 3;tries4;"), 1);
+        same("first and last letters", Checks.load(new PreparedPlans(), "table;column azazazaz day;prepare zzzzzzzz azazazaz=?0;"), 1);
         same("words as names", Checks.load(new PreparedPlans(),
                 "table;column column number;column day day;index day;row 1 2;prepare tries day=1 and column=2;tries 1;"), 1);
         same("long numbers", Checks.load(new PreparedPlans(), "table;column a day;row 0000000000000999;prepare p a=?0003;tries 00099;"), 1);
@@ -107,6 +109,12 @@ public final class PromisesTest {
         long before = x.checksum();
         same("error", Checks.load(x, "table;colum"), PreparedPlans.SYNTAX_ERROR);
         same("unchanged by an error", x.checksum(), before);
+        Checks.load(x, SHOP);
+        same("after an error a new text starts anew", x.checksum(), Checks.loaded(SHOP).checksum());
+        same("without an index", bit(Checks.load(x, TABLE) == 0 && x.column(0, 1) == 0), 1);
+        x.undo();
+        x.undo();
+        same("back again", x.checksum(), before);
         same("emptied by an error", x.append(0, 0, 0, 0, 0), 20);
         fails("negative length", ARGUMENT, () -> x.load(-1));
         fails("length 21 of 20", ARGUMENT, () -> x.load(21));
@@ -148,6 +156,10 @@ public final class PromisesTest {
         error(due, "table;column ^not day;");
         error(due, "table;column ^abcdefghi day;");
         error(due, "table;column ^1 day;");
+        error(due, "table;column ^zzzzzzzzz day;");
+        error(due, "^" + ";".repeat(800));
+        error(due, "table;^" + "(".repeat(794));
+        error(due, "table" + " ".repeat(795) + "^");
         error(due, "table;column a ^days;");
         error(due, "table;column a ^;");
         error(due, "table;column a day ^column b day;");
@@ -440,6 +452,8 @@ public final class PromisesTest {
         }
         same("rows found", y.run(0, 20, 0, 0, 0), 12);
         same("limited to 1000", y.learned(0, 0), 325);
+        y.run(0, 20, 0, 0, 0);
+        same("limited to 1000 again", y.learned(0, 0), (3 * 325 + 1000) / 4);
         fails("learned(2, 0)", INDEX, () -> x.learned(2, 0));
         fails("learned(-1, 0)", INDEX, () -> x.learned(-1, 0));
         fails("learned(0, 3)", INDEX, () -> x.learned(0, 3));
@@ -675,6 +689,8 @@ public final class PromisesTest {
         same("exceptions change nothing", x.checksum(), before);
         wrongValues("run", (s, v) -> x.run(s, v[0], v[1], v[2], v[3]));
         touchesByTheChosenComparison();
+        touchesByTheFirstOfTwo();
+        choosesGenericPlansUnseen();
         usesGenericPlans();
     }
 
@@ -686,6 +702,30 @@ public final class PromisesTest {
         same("found", x.run(0, 3, 0, 0, 0), 2);
         same("touched", x.statement(0, 5), 3);
         same("learned 300", x.learned(0, 0), 150);
+    }
+
+    /** Both expect 2 of 4 rows: the first one in the text is chosen, also if it stands in parentheses. */
+    private static void touchesByTheFirstOfTwo() {
+        String text = "table;column a day;index a;row 1;row 1;row 2;row 4;prepare p ";
+        PreparedPlans x = Checks.loaded(text + "(a<3) and a>2;cost 9 0 1;");
+        same("a<3", x.specialCost(0, 0, 0, 0, 0, 0), 2);
+        x.run(0, 0, 0, 0, 0);
+        same("touched a<3", x.statement(0, 5), 3);
+        PreparedPlans y = Checks.loaded(text + "a>2 and a<3;cost 9 0 1;");
+        same("a>2", y.specialCost(0, 0, 0, 0, 0, 0), 2);
+        y.run(0, 0, 0, 0, 0);
+        same("touched a>2", y.statement(0, 5), 1);
+    }
+
+    /** With a=9 seen the plan by a would cost 0; not seen it expects 3 of 3 rows, and b>?1 expects 1. */
+    private static void choosesGenericPlansUnseen() {
+        PreparedPlans x = Checks.loaded("table;column a day;column b day;index a;index b;row 1 1;row 1 2;row 1 3;"
+                + "prepare p a=?0 and b>?1;cost 9 0 1;tries 0;");
+        same("special by a", x.special(0, 9, 0, 0, 0), 0);
+        same("generic by b", x.wouldUse(0, 9, 0, 0, 0), 5);
+        x.run(0, 9, 0, 0, 0);
+        same("kept", x.kept(0), 1);
+        same("touched b>0", x.statement(0, 5), 3);
     }
 
     private static void usesGenericPlans() {
@@ -882,6 +922,42 @@ public final class PromisesTest {
         }
         all = checksumOf(all, 0, 0, 0, 0, 0, 0, -2, 0, -1, -1, -1, 100);
         same("wraps around", y.checksum(), checksumOf(all, 0, 0, 0, 0, 0, 0, -2, -1, -1, -1, -1, 100));
+    }
+
+    /** Whatever the arguments are, nothing but the document's exceptions comes. */
+    private static void greatArguments() {
+        int[] great = {Integer.MIN_VALUE, Integer.MIN_VALUE + 1, -2, Integer.MAX_VALUE - 1, Integer.MAX_VALUE};
+        for (PreparedPlans x : new PreparedPlans[] {new PreparedPlans(), Checks.loaded(SHOP)}) {
+            for (int g : great) {
+                fails("count", ARGUMENT, () -> x.count(g));
+                fails("load", ARGUMENT, () -> x.load(g));
+                fails("named", ARGUMENT, () -> x.named(g));
+                fails("column", INDEX, () -> x.column(g, g));
+                fails("value", INDEX, () -> x.value(g, 0));
+                fails("value", INDEX, () -> x.value(0, g));
+                fails("hole", INDEX, () -> x.hole(g, g));
+                fails("statement", INDEX, () -> x.statement(g, g));
+                fails("learned", INDEX, () -> x.learned(0, g));
+                fails("kept", INDEX, () -> x.kept(g));
+                fails("genericCost", INDEX, () -> x.genericCost(g, g));
+                fails("special", INDEX, () -> x.special(g, g, g, g, g));
+                fails("specialCost", INDEX, () -> x.specialCost(g, g, g, g, g, g));
+                fails("wouldUse", INDEX, () -> x.wouldUse(g, g, g, g, g));
+                fails("rows", INDEX, () -> x.rows(g, g, g, g, g));
+                fails("run", INDEX, () -> x.run(g, g, g, g, g));
+                fails("insert", ARGUMENT, () -> x.insert(g, g, g, g, g));
+                fails("delete", INDEX, () -> x.delete(g));
+                fails("setIndex", INDEX, () -> x.setIndex(g, true));
+            }
+        }
+        PreparedPlans x = Checks.loaded(SHOP);
+        for (int g : great) {
+            fails("hole of 0", ARGUMENT, () -> x.hole(0, g));
+            fails("statement 0", ARGUMENT, () -> x.statement(0, g));
+            fails("genericCost of 0", ARGUMENT, () -> x.genericCost(0, g));
+            fails("specialCost of 0", ARGUMENT, () -> x.specialCost(0, g, 0, 0, 0, 0));
+            fails("run of 0", ARGUMENT, () -> x.run(0, g, 0, 0, 0));
+        }
     }
 
     private static void constants() {
