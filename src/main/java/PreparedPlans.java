@@ -699,7 +699,9 @@ public final class PreparedPlans {
             rowCount = other.rowCount;
             version = other.version;
             System.arraycopy(other.cells, 0, cells, 0, MOST_ROWS * MOST_COLUMNS);
-            System.arraycopy(other.isIndexed, 0, isIndexed, 0, MOST_COLUMNS);
+            for (int i = 0; i < MOST_COLUMNS; i++) {
+                isIndexed[i] = other.isIndexed[i];
+            }
             statistics.copyFrom(other.statistics);
             for (int i = 0; i < MOST_STATEMENTS; i++) {
                 usages[i].copyFrom(other.usages[i]);

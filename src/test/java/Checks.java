@@ -1,5 +1,13 @@
+import java.util.function.Consumer;
+import java.util.function.Supplier;
+
 /** What the tests have in common: they count what is wrong and print it. */
 final class Checks {
+    static final Class<IllegalArgumentException> ARGUMENT = IllegalArgumentException.class;
+    static final Class<IndexOutOfBoundsException> INDEX = IndexOutOfBoundsException.class;
+    static final Class<IllegalStateException> STATE = IllegalStateException.class;
+    private static final boolean[] BOTH = {false, true};
+
     private static int done = 0;
     private static int wrong = 0;
 
@@ -72,5 +80,85 @@ final class Checks {
     static int named(PreparedPlans plans, String name) {
         put(plans, name);
         return plans.named(name.length());
+    }
+
+    static void is(String what, boolean isRight) {
+        same(what, isRight ? 1 : 0, 1);
+    }
+
+    private static void sameTold(String what, String got, String due) {
+        is(what + (got.equals(due) ? "" : "\n" + got + "instead of\n" + due), got.equals(due));
+    }
+
+    /** The call throws what is due, and the object is then as one that is made the same way without the call. */
+    static void refuses(String what, Class<? extends RuntimeException> due, Supplier<PreparedPlans> make,
+            Consumer<PreparedPlans> call) {
+        for (boolean withUses : BOTH) {
+            PreparedPlans plans = make.get();
+            fails(what, due, () -> call.accept(plans));
+            sameTold(what + " changes nothing", tell(plans, withUses), tell(make.get(), withUses));
+        }
+    }
+
+    /** The call throws nothing, and the object is then as one that is made the same way without the call. */
+    static void changesNothing(String what, Supplier<PreparedPlans> make, Consumer<PreparedPlans> call) {
+        for (boolean withUses : BOTH) {
+            PreparedPlans plans = make.get();
+            call.accept(plans);
+            sameTold(what + " changes nothing", tell(plans, withUses), tell(make.get(), withUses));
+        }
+    }
+
+    /** The text has the error that is due where ^ stands (which is no part of it), and replaces nothing. */
+    static void error(int due, String marked) {
+        int offset = marked.indexOf('^');
+        String text = marked.substring(0, offset) + marked.substring(offset + 1);
+        PreparedPlans plans = new PreparedPlans();
+        same("load of " + text, load(plans, text), due);
+        same("offset in " + text, plans.errorOffset(), offset);
+        PreparedPlans used = Texts.used();
+        used.load(0);
+        same("load of " + text + " after others", load(used, text), due);
+        same("offset in " + text + " after others", used.errorOffset(), offset);
+        same("the buffer behind " + text, used.append(0, 0, 0, 0, 0), 20);
+        sameTold(text + " replaces nothing", tellData(used, false), tellData(Texts.used(), false));
+    }
+
+    /** The text has no error, and this number of statements. */
+    static void right(int statements, String text) {
+        PreparedPlans plans = Texts.used();
+        plans.load(0);
+        same("load of " + text, load(plans, text), statements);
+        same("offset in " + text, plans.errorOffset(), -1);
+        same("statements of " + text, plans.count(2), statements);
+    }
+
+    /** All that can be told of an object, which is undone and whose buffer is read by that. */
+    private static String tell(PreparedPlans plans, boolean withUses) {
+        StringBuilder told = new StringBuilder("error at " + plans.errorOffset() + "\n" + tellData(plans, withUses));
+        int length = plans.append(0, 0, 0, 0, 0) - 20;
+        length = length < 0 ? 800 : length;
+        told.append("buffer of ").append(length).append(" is read with ").append(plans.load(length));
+        told.append(" and ").append(plans.errorOffset()).append('\n').append(tellNow(plans, withUses));
+        return told.toString();
+    }
+
+    /** All but the buffer and the error's offset: the data, and what undo brings back. */
+    private static String tellData(PreparedPlans plans, boolean withUses) {
+        StringBuilder told = new StringBuilder(tellNow(plans, withUses));
+        for (int left = plans.undo(); left >= 0; left = plans.undo()) {
+            told.append(left).append(" left, ").append(tellNow(plans, withUses));
+        }
+        return told.toString();
+    }
+
+    /** The checksum does not tell the costs of kept plans, but wouldUse does; it must not hide what another call spoils, though. */
+    private static String tellNow(PreparedPlans plans, boolean withUses) {
+        StringBuilder told = new StringBuilder("checksum " + plans.checksum());
+        for (int statement = 0; withUses && statement < plans.count(2); statement++) {
+            told.append(", use ").append(plans.wouldUse(statement, 0, 0, 0, 0));
+            told.append(", found ").append(plans.rows(statement, 0, 0, 0, 0));
+        }
+        return told.append('\n').toString();
     }
 }

@@ -1,14 +1,11 @@
 /** A method for each promise of the document: ordinary inputs, the edges that it names, and wrong inputs. */
 public final class PromisesTest {
-    private static final Class<IllegalArgumentException> ARGUMENT = IllegalArgumentException.class;
-    private static final Class<IndexOutOfBoundsException> INDEX = IndexOutOfBoundsException.class;
-    private static final Class<IllegalStateException> STATE = IllegalStateException.class;
+    private static final Class<IllegalArgumentException> ARGUMENT = Checks.ARGUMENT;
+    private static final Class<IndexOutOfBoundsException> INDEX = Checks.INDEX;
+    private static final Class<IllegalStateException> STATE = Checks.STATE;
 
-    private static final String TABLE = "table;column a number;column b day;column c flag;";
-    private static final String ROWS = "row 10 5 1;row 20 5 0;row 30 9 1;row 30 12 1;";
-    /** Statement 0 has hole 0 (number) in a sargable place; statement 1 has holes 1 (day) and 3 (flag), none sargable. */
-    private static final String SHOP = TABLE + "index a;index b;" + ROWS
-            + "prepare older a>?0 and c=1;prepare same b=?1 or c=?3;cost 1 3 2;tries 2;";
+    private static final String TABLE = Texts.TABLE;
+    private static final String SHOP = Texts.SHOP;
 
     public static void main(String[] args) {
         promise1NewObject();
@@ -129,16 +126,9 @@ public final class PromisesTest {
         same("first bytes alone, columns", x.count(0), 0);
     }
 
-    private static void error(String text, int due, int offset) {
-        PreparedPlans x = new PreparedPlans();
-        same("load of " + text, Checks.load(x, text), due);
-        same("offset in " + text, x.errorOffset(), offset);
-    }
-
     /** The error that is due where ^ stands (which is not part of the text). */
     private static void error(int due, String marked) {
-        int offset = marked.indexOf('^');
-        error(marked.substring(0, offset) + marked.substring(offset + 1), due, offset);
+        Checks.error(due, marked);
     }
 
     private static void promise3SyntaxErrors() {
