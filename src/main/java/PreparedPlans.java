@@ -1132,8 +1132,10 @@ public final class PreparedPlans {
             holeTypes = types;
             Prepared prepared = new Prepared(name, readCondition(0), types);
             expectByte(';');
-            prepared.condition.addSargable(prepared.sargable);
-            setup.statements.add(prepared);
+            if (error == 0) {
+                prepared.condition.addSargable(prepared.sargable);
+                setup.statements.add(prepared);
+            }
         }
 
         private void readCost() {
